@@ -31,8 +31,10 @@ public final class PromisesTest {
         neighbours();
         between();
         ways();
+        longWays();
         loose();
         reach();
+        reachAlong();
         names();
         namesOfSeveral();
         overlaps();
@@ -430,6 +432,20 @@ public final class PromisesTest {
         thrown(s, STATE, "stale", x -> x.way(-1, -1));
     }
 
+    private static void longWays() {
+        where = "promise 14, long ways";
+        SpaceCycles s = new SpaceCycles();
+        box(s, 0, 0, 170, 10, 0);
+        for (int k = 1; k < 17; k++) {
+            s.line(10 * k, 10, 10 * k, 0, 0);
+            s.door(3 + k, 0, 10);
+        }
+        due(s, 17, "spaces", SpaceCycles::run);
+        answers(new long[] {s.way(0, 16), s.way(16, 0), s.way(16, 5), s.way(16, -1)}, 16, 16, 11, -2);
+        s.door(3, 0, 10);
+        answers(new long[] {s.way(16, -1), s.way(-1, 16)}, 17, 17);
+    }
+
     private static void loose() {
         where = "promise 15";
         SpaceCycles s = new SpaceCycles();
@@ -479,6 +495,19 @@ public final class PromisesTest {
         for (int k = 0; k < got.length; k++) got[k] = s.loose(k, 1) * 1000000L + s.loose(k, 2) * 1000L + reaches[k];
         answers(got, 80149999L, 90079999L, 90100050L, 100100010L, 100139999L, 110110010L, 110130010L,
                 120100010L, 120139999L, 130100010L, 140100010L, 150099999L, 150120030L, 500149999L);
+    }
+
+    private static void reachAlong() {
+        where = "promise 15, reach to a line along the same one";
+        SpaceCycles s = new SpaceCycles();
+        s.line(100, 10, 100, 20, 0);
+        s.line(100, 27, 100, 30, 0);
+        s.line(10, 100, 20, 100, 0);
+        s.line(27, 100, 30, 100, 0);
+        s.run();
+        long[] got = new long[s.count(3)];
+        for (int k = 0; k < got.length; k++) got[k] = s.loose(k, 3);
+        answers(got, -1, 7, 7, -1, -1, 7, 7, -1);
     }
 
     private static void names() {
@@ -537,6 +566,10 @@ public final class PromisesTest {
         s.move(5, -20, 0);
         s.run();
         answers(new long[] {s.nameOf(0), s.nameOf(1)}, 0, 13);
+        s.name(0, 14);
+        s.move(5, -5, 0);
+        s.run();
+        answers(new long[] {s.nameOf(0), s.nameOf(1)}, 14, 13);
     }
 
     private static void overlaps() {
