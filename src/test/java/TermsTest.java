@@ -323,6 +323,8 @@ public final class TermsTest extends Sentences {
         box(most, 1, 1, 498, 498);
         most.run();
         row(of(most.size(0, 0), most.size(1, 0)), 250000 - 498 * 498, 498 * 498);
+        SpaceCycles turned = drawn(new int[] {9, 2, 9, 7}, new int[] {4, 7, 9, 7}, new int[] {4, 2, 4, 7}, new int[] {4, 2, 9, 2});
+        due(25, () -> turned.size(0, 0));
     }
 
     @Says("its EDGE the length of all its sides")
@@ -387,6 +389,9 @@ public final class TermsTest extends Sentences {
         row(of(high.way(0, 1), high.way(2, 3)), -2, 1);
         s.door(4, 19, 21);
         row(of(s.way(0, 1), s.way(2, 3)), 1, 1);
+        SpaceCycles last = drawn(new int[] {0, 0, 1, 0}, new int[] {0, 0, 0, 400}, new int[] {1, 0, 1, 400}, new int[] {0, 400, 1, 400});
+        last.door(2, 399, 400);
+        due(1, () -> last.way(0, NONE));
     }
 
     @Says("It JOINS two spaces (or the outside, or one with itself)")
