@@ -142,15 +142,10 @@ public final class TermsTest extends Sentences {
         SpaceCycles s = rooms(20, 10);
         s.line(12, 5, 13, 5, 0);
         s.run();
-        String first = picture(s);
-        for (int k = 3; k <= 100; k++) s.run();
+        String early = picture(s);
+        for (int k = 3; k <= 100; k++) due(2, s::run);
+        same(picture(s), early);
         row(of(s.rings(1), s.sides(1, 1), s.side(1, 1, 1, 0), s.side(1, 0, 3, 5)), 2, 2, 5, 0);
-        s.line(300, 0, 301, 0, 0);
-        due(STATE, s::run);
-        SpaceCycles again = rooms(20, 10);
-        again.line(12, 5, 13, 5, 0);
-        again.run();
-        same(picture(again), first);
     }
 
     @Says("POINTS are lines' ends, and where lines meet.")

@@ -6,7 +6,7 @@ import java.util.Arrays;
 
 /** What tests have in common that each hold one sentence of the document against the class. */
 class Sentences {
-    /** The words of the document that a test holds against the class. */
+    /** The words of the document that a test holds against the class, where need be with the case of them behind a colon. */
     @Retention(RetentionPolicy.RUNTIME)
     @interface Says {
         String value();
