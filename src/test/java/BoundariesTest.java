@@ -291,6 +291,26 @@ public final class BoundariesTest extends Sentences {
         row(counts(rooms(20, 10)), 2, 6, 7, 0, 6);
     }
 
+    @Says("Promise 6: points, pieces and loose ends of 20 lines with ends at 40 different x, or at 40 different y")
+    static void endsAtDifferentPlaces() {
+        SpaceCycles lying = new SpaceCycles();
+        SpaceCycles standing = new SpaceCycles();
+        for (int k = 0; k < 20; k++) {
+            lying.line(20 + k, 10 + k, 200 + k, 10 + k, 0);
+            standing.line(10 + k, 20 + k, 10 + k, 200 + k, 0);
+        }
+        for (SpaceCycles s : new SpaceCycles[] {lying, standing}) {
+            for (int turn = 0; turn < 3; turn++) {
+                due(0, s::run);
+                row(counts(s), 0, 40, 20, 40, 40);
+                row(looseEnd(s, 39), 19, s == lying ? 219 : 29, s == lying ? 29 : 219, NONE);
+                for (int line = 0; line < 20; line++) s.move(line, s == lying ? 50 : 0, s == lying ? 0 : 50);
+                s.run();
+                for (int line = 0; line < 20; line++) s.move(line, s == lying ? -50 : 0, s == lying ? 0 : -50);
+            }
+        }
+    }
+
     @Says("Promise 6: Illegal argument")
     static void countsOfNothing() {
         SpaceCycles s = rooms(10);
@@ -728,11 +748,15 @@ public final class BoundariesTest extends Sentences {
         for (int line = 4; line < 20; line++) s.move(line, 1, 0);
         s.run();
         due(100, () -> s.overlap(0, 0));
+        s.run();
+        due(100, () -> s.overlap(0, 0));
         SpaceCycles turned = new SpaceCycles();
         box(turned, 400, 400, 10, 10);
         for (int k = 0; k < 16; k++) turned.line(5 + k, 4 * k, 5 + k, 4 * k + 2, 0);
         turned.run();
         for (int line = 4; line < 20; line++) turned.move(line, 0, 1);
+        turned.run();
+        due(100, () -> turned.overlap(0, 0));
         turned.run();
         due(100, () -> turned.overlap(0, 0));
     }
