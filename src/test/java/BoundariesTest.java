@@ -534,6 +534,17 @@ public final class BoundariesTest extends Sentences {
         }
     }
 
+    @Says("Promise 14: Through how many doors one must go: a long door joins what is across it, not what is side by side")
+    static void waysTwiceThroughADoor() {
+        SpaceCycles s = drawn(new int[] {0, 0, 20, 0}, new int[] {20, 0, 20, 10}, new int[] {0, 10, 20, 10},
+            new int[] {0, 0, 0, 10}, new int[] {0, 5, 20, 5}, new int[] {10, 5, 10, 10});
+        row(of(s.at(5, 2), s.at(5, 7), s.at(15, 7)), 0, 1, 2);
+        s.door(4, 9, 11);
+        row(of(s.way(0, 1), s.way(0, 2), s.way(1, 2)), 1, 1, 2);
+        s.door(5, 4, 5);
+        due(1, () -> s.way(1, 2));
+    }
+
     @Says("Promise 14: a door stays where it is on its line when new lines cut it")
     static void waysAfterANewCut() {
         SpaceCycles s = rooms(20, 10);
